@@ -2,10 +2,11 @@
 public final class SlowPanes {
     public static final int BAD = -1, FULL = -2, NONE = -3, STATE = -4;
 
-    private static final int NOTHING_THERE = -11, OUTSIDE = -12, OTHER_SORT = -13, SIZE_BELOW_0 = -14, PARTED_BY_0 = -15;
+    private static final int NOTHING_THERE = -11, OUTSIDE = -12, OTHER_SORT = -13;
+    private static final int SIZE_BELOW_0 = -14, PARTED_BY_0 = -15;
     private static final int NO_ROW = -99, FAULT = -100;
     private static final int PLACES = 4, DAYS = 50, LOOKERS = 3, VIEW_MOST = 99, LOVE_MOST = 9;
-    private static final int PANES_MOST = 6, GLIMPSES_MOST = 16, TRIAL_DAYS_MOST = 20;
+    private static final int PANES_MOST = 6, GLIMPSES_MOST = 16, RING = GLIMPSES_MOST - 1, TRIAL_DAYS_MOST = 20;
     private static final int KINDS = 6, PANE = 0, THICK = 1, DOUBLE = 2, DARK = 3, RIPPLED = 4, MIRROR = 5;
     private static final int NOWHERE = 4, DARK_GLIMPSE = -9, NOWHERE_TOLD = -9;
     private static final int TURNED_MORE = 100000;
@@ -122,7 +123,7 @@ public final class SlowPanes {
         if (i < 0 || i >= asked.count) {
             return NONE;
         }
-        return asked.glimpses[i];
+        return asked.glimpseAt(i);
     }
 
     public int hang(int pane, int place) {
@@ -654,9 +655,13 @@ public final class SlowPanes {
         }
     }
 
-    /** A PANE. A GLIMPSE is held as it is told: 10 times its DAY and its PLACE, or DARK_GLIMPSE. */
+    /**
+     * A PANE. A GLIMPSE is held as it is told: 10 times its DAY and its PLACE, or DARK_GLIMPSE. The ROW lies in a
+     * ring, so that a DAY moves the face and no GLIMPSE: a TRIAL lets many DAYS go.
+     */
     private static final class Pane {
-        final int[] glimpses = new int[GLIMPSES_MOST];
+        private final int[] ring = new int[GLIMPSES_MOST];
+        private int face = 0;
         int kind = PANE;
         int count = 1;
         int place = NOWHERE;
@@ -665,38 +670,47 @@ public final class SlowPanes {
             kind = newKind;
             count = n;
             place = NOWHERE;
-            for (int i = 0; i < GLIMPSES_MOST; i++) {
-                glimpses[i] = DARK_GLIMPSE;
+            for (int i = 0; i < n; i++) {
+                putGlimpse(i, DARK_GLIMPSE);
             }
+        }
+
+        int glimpseAt(int i) {
+            return ring[(face + i) & RING];
+        }
+
+        private void putGlimpse(int i, int glimpse) {
+            ring[(face + i) & RING] = glimpse;
         }
 
         void copyFrom(Pane other) {
             kind = other.kind;
             count = other.count;
             place = other.place;
-            System.arraycopy(other.glimpses, 0, glimpses, 0, GLIMPSES_MOST);
+            face = other.face;
+            System.arraycopy(other.ring, 0, ring, 0, GLIMPSES_MOST);
         }
 
         /** This one becomes what a cut behind the k-th GLIMPSE of another one parts from it. */
         void becomeBehind(Pane other, int k) {
             become(PANE, other.count - k);
             for (int i = 0; i < count; i++) {
-                glimpses[i] = other.glimpses[k + i];
+                putGlimpse(i, other.glimpseAt(k + i));
             }
         }
 
         void append(Pane other) {
             for (int i = 0; i < other.count; i++) {
-                glimpses[count + i] = other.glimpses[i];
+                putGlimpse(count + i, other.glimpseAt(i));
             }
             count += other.count;
         }
 
         void turnAbout() {
             for (int i = 0, j = count - 1; i < j; i++, j--) {
-                int swapped = glimpses[i];
-                glimpses[i] = glimpses[j];
-                glimpses[j] = swapped;
+                int swapped = glimpseAt(i);
+                putGlimpse(i, glimpseAt(j));
+                putGlimpse(j, swapped);
             }
         }
 
@@ -705,12 +719,12 @@ public final class SlowPanes {
         }
 
         int last() {
-            return glimpses[count - 1];
+            return glimpseAt(count - 1);
         }
 
         /** The GLIMPSE ahead of the last one; dark if there is none. */
         int aheadOfLast() {
-            return count < 2 ? DARK_GLIMPSE : glimpses[count - 2];
+            return count < 2 ? DARK_GLIMPSE : glimpseAt(count - 2);
         }
 
         boolean movesOn(int day) {
@@ -725,10 +739,8 @@ public final class SlowPanes {
             if (!movesOn(day)) {
                 return;
             }
-            for (int i = count - 1; i > 0; i--) {
-                glimpses[i] = glimpses[i - 1];
-            }
-            glimpses[0] = place == NOWHERE ? DARK_GLIMPSE : glimpseOf(place, day);
+            face = (face - 1) & RING;
+            putGlimpse(0, place == NOWHERE ? DARK_GLIMPSE : glimpseOf(place, day));
         }
     }
 
@@ -807,7 +819,7 @@ public final class SlowPanes {
             int lit = 0;
             for (int i = 0; i < count; i++) {
                 for (int j = 0; j < panes[i].count; j++) {
-                    lit += panes[i].glimpses[j] == DARK_GLIMPSE ? 0 : 1;
+                    lit += panes[i].glimpseAt(j) == DARK_GLIMPSE ? 0 : 1;
                 }
             }
             return lit;
@@ -961,7 +973,7 @@ public final class SlowPanes {
             look();
             int value = 0;
             while (at < length && bytes[at] >= '0' && bytes[at] <= '9') {
-                value = at - start < 2 ? value * 10 + bytes[at] - '0' : value;
+                value = value * 10 + bytes[at] - '0';
                 at++;
             }
             int digits = at - start;

@@ -145,12 +145,18 @@ final class GlassTest {
         Check.due("16: one left", x.many(0), 1);
         x.pane(0, 10);
         Check.due("16: sixteen", x.lay(0, 1), 0);
+        row("16: sixteen", x, 0, 41, 31, 21, -9, 40, 30, -9, -9, -9, -9, -9, -9, -9, -9, -9, -9);
         x.pane(0, 1);
         Check.due("16: FULL", x.lay(0, 1), -2);
         Check.due("16: FULL the other way", x.lay(1, 0), -2);
         Check.due("16: still two", x.many(0), 2);
         Check.due("16: still sixteen", x.paneOf(0, 1), 16);
         Check.due("16: BAD ahead of FULL", x.lay(0, 0), -1);
+        x.cut(0, 7);
+        x.hang(2, 3);
+        x.days(9);
+        Check.due("16: sixteen lit ones", x.lay(2, 0), 1);
+        row("16: sixteen lit ones", x, 1, 133, 123, 113, 103, 93, 83, 73, 63, 53, 131, 121, 111, 101, 91, 81, 71);
     }
 
     private static void drop() {

@@ -10,6 +10,8 @@ final class QuarryTest {
         feed();
         quarry();
         quarryMakesAllAnew();
+        quarryAgainAndAgain();
+        theTapeEnds();
         faultsOfPanes();
         faultsOfViews();
         faultsOfOthers();
@@ -111,6 +113,47 @@ final class QuarryTest {
         Check.due("3: view of 4", x.viewOf(1, 3), 4);
         Check.due("3: blanks alone", Check.quarry(x, "   "), 0);
         Check.due("3: today 0", Check.quarry(x, "today 00;"), 0);
+        Check.due("3: blanks in the end", Check.quarry(x, "dark 2;  "), 1);
+    }
+
+    private static void quarryAgainAndAgain() {
+        SlowPanes x = new SlowPanes();
+        Check.quarry(x, "pane 3 at 1;view 1 from 2:34;love 0 2 3 4 5;love 2 6 7 8 9;today 6;");
+        Check.due("3: the second", Check.quarry(x, "mirror 2;view 0 from 0:7;"), 1);
+        Check.due("3: today of the second", x.today(), 0);
+        Check.due("3: a fault", Check.quarry(x, "today 9;dark 4;dark 5;view 0 from 0:8;dark 60;"), -143);
+        Check.due("3: panes of the second stay", x.paneOf(0, 0), 5);
+        Check.due("3: one pane stays", x.many(0), 1);
+        Check.due("3: view of the second stays", x.viewOf(0, 0), 7);
+        Check.due("3: the third", x.quarry(), 0);
+        for (int place = 0; place < 4; place++) {
+            for (int day = 0; day < 50; day++) {
+                Check.due("3: views of the third", x.viewOf(place, day), 0);
+            }
+            for (int looker = 0; looker < 3; looker++) {
+                Check.due("3: love of the third", x.love(looker, place, 1), 1);
+            }
+        }
+        Check.due("3: today of the third", x.today(), 0);
+    }
+
+    /** What an earlier text left behind the end of THE TAPE is not there, and a full TAPE has an end, too. */
+    private static void theTapeEnds() {
+        SlowPanes x = new SlowPanes();
+        String blanks = " ".repeat(190);
+        String[] ends = {"today 5;;;", "today 5555", "pane 1 at1", "pane 1 att", "pane 1;dar", "view 0 fro"};
+        int[] faults = {298, 296, 300, 297, 297, 297};
+        for (int i = 0; i < ends.length; i++) {
+            Check.due("3: 200 bytes to '" + ends[i] + "'", Check.quarry(x, blanks + ends[i]), -faults[i]);
+        }
+        Check.quarry(x, "today 5;today 5;");
+        Check.due("3: no sign behind the end", Check.quarry(x, "today 5"), -107);
+        Check.quarry(x, "today 555555");
+        Check.due("3: no digit behind the end", Check.quarry(x, "today 5"), -107);
+        Check.due("3: no digit at all", Check.quarry(x, "today "), -106);
+        Check.quarry(x, "darkdarkdark;");
+        Check.due("3: no letter behind the end", Check.quarry(x, "dark"), -104);
+        Check.due("3: half a word", Check.quarry(x, "da"), -100);
     }
 
     private static void quarryMakesAllAnew() {
@@ -156,6 +199,12 @@ final class QuarryTest {
         fault("  pan 3;", 2);
         fault("panes 3;", 0);
         fault("Pane 3;", 0);
+        fault("panez 3;", 0);
+        fault("cane 3;", 0);
+        fault("pane{3;", 4);
+        fault("pane`3;", 4);
+        fault("pane /;", 5);
+        fault("pane 1:;", 6);
         fault("paneA3;", 4);
         fault("pane;", 4);
         fault("pane at 3;", 5);
