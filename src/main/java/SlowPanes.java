@@ -6,7 +6,8 @@ public final class SlowPanes {
     private static final int SIZE_BELOW_0 = -14, PARTED_BY_0 = -15;
     private static final int NO_ROW = -99, FAULT = -100;
     private static final int PLACES = 4, DAYS = 50, LOOKERS = 3, VIEW_MOST = 99, LOVE_MOST = 9;
-    private static final int PANES_MOST = 6, GLIMPSES_MOST = 16, RING = GLIMPSES_MOST - 1, TRIAL_DAYS_MOST = 20;
+    // the mask holds because GLIMPSES_MOST is a power of 2
+    private static final int PANES_MOST = 6, GLIMPSES_MOST = 16, RING_MASK = GLIMPSES_MOST - 1, TRIAL_DAYS_MOST = 20;
     private static final int KINDS = 6, PANE = 0, THICK = 1, DOUBLE = 2, DARK = 3, RIPPLED = 4, MIRROR = 5;
     private static final int NOWHERE = 4, DARK_GLIMPSE = -9, NOWHERE_TOLD = -9;
     private static final int TURNED_MORE = 100000;
@@ -676,11 +677,11 @@ public final class SlowPanes {
         }
 
         int glimpseAt(int i) {
-            return ring[(face + i) & RING];
+            return ring[(face + i) & RING_MASK];
         }
 
         private void putGlimpse(int i, int glimpse) {
-            ring[(face + i) & RING] = glimpse;
+            ring[(face + i) & RING_MASK] = glimpse;
         }
 
         void copyFrom(Pane other) {
@@ -739,7 +740,7 @@ public final class SlowPanes {
             if (!movesOn(day)) {
                 return;
             }
-            face = (face - 1) & RING;
+            face = (face - 1) & RING_MASK;
             putGlimpse(0, place == NOWHERE ? DARK_GLIMPSE : glimpseOf(place, day));
         }
     }
