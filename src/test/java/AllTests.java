@@ -11,6 +11,11 @@ public final class AllTests {
         RowsTest.run();
         HostTest.run();
         KeptTest.run();
+        RangeTest.run();
+        RefusedTest.run();
+        TextTest.run();
+        TermsTest.run();
+        HostEdgesTest.run();
         ModelTest.run();
         if (!Check.told()) {
             System.exit(1);
