@@ -16,6 +16,9 @@ public final class AllTests {
         TextTest.run();
         TermsTest.run();
         HostEdgesTest.run();
+        CallsTest.run();
+        FormTest.run();
+        ReadmeTest.run();
         ModelTest.run();
         if (!Check.told()) {
             System.exit(1);
